@@ -39,6 +39,7 @@ public final class SortedTables {
     private final Slot slot0 = new Slot();
     private final Slot slot1 = new Slot();
     private final GreatestPath greatestPath = new GreatestPath();
+    private final Fillings fillingsOfShape = new Fillings();
 
     public SortedTables() {
     }
@@ -94,9 +95,9 @@ public final class SortedTables {
             case 5:
                 return table.sum();
             case 6:
-                return table.corners();
+                return table.ends(false);
             default:
-                return table.gaps();
+                return table.ends(true);
         }
     }
 
@@ -234,7 +235,7 @@ public final class SortedTables {
             throws IndexOutOfBoundsException, IllegalArgumentException {
         Table table = existingTable(t);
         requireNotNegative(k);
-        return gap ? table.kthGap(k) : table.kthCorner(k);
+        return table.kthEnd(k, gap);
     }
 
     public int hook(int t, int i, int j) throws IndexOutOfBoundsException {
@@ -242,7 +243,7 @@ public final class SortedTables {
     }
 
     public long fillings(int t) throws IndexOutOfBoundsException {
-        return existingTable(t).countFillings();
+        return fillingsOfShape.countFor(existingTable(t));
     }
 
     public int path(int t, int what) throws IndexOutOfBoundsException, IllegalArgumentException {
@@ -403,9 +404,7 @@ public final class SortedTables {
         private final int[] numbers = new int[PLACES];
 
         Table() {
-            for (int k = 0; k < PLACES; k++) {
-                numbers[k] = ABSENT;
-            }
+            wipe();
         }
 
         int at(int i, int j) {
@@ -511,45 +510,27 @@ public final class SortedTables {
             return rowLength(i) < (i == 0 ? SIDE : rowLength(i - 1));
         }
 
-        int corners() {
-            int corners = 0;
-            for (int i = 0; i < SIDE; i++) {
-                if (hasCorner(i)) {
-                    corners++;
-                }
-            }
-            return corners;
+        private boolean endsAt(int i, boolean gap) {
+            return gap ? hasGap(i) : hasCorner(i);
         }
 
-        int gaps() {
-            int gaps = 0;
+        /** Counts the gaps or the corners: each row has at most one of either. */
+        int ends(boolean gap) {
+            int ends = 0;
             for (int i = 0; i < SIDE; i++) {
-                if (hasGap(i)) {
-                    gaps++;
+                if (endsAt(i, gap)) {
+                    ends++;
                 }
             }
-            return gaps;
+            return ends;
         }
 
-        int kthCorner(int k) {
+        int kthEnd(int k, boolean gap) {
             int before = 0;
             for (int i = 0; i < SIDE; i++) {
-                if (hasCorner(i)) {
+                if (endsAt(i, gap)) {
                     if (before == k) {
-                        return placeOf(i, rowLength(i) - 1);
-                    }
-                    before++;
-                }
-            }
-            return NONE;
-        }
-
-        int kthGap(int k) {
-            int before = 0;
-            for (int i = 0; i < SIDE; i++) {
-                if (hasGap(i)) {
-                    if (before == k) {
-                        return placeOf(i, rowLength(i));
+                        return placeOf(i, gap ? rowLength(i) : rowLength(i) - 1);
                     }
                     before++;
                 }
@@ -574,47 +555,6 @@ public final class SortedTables {
 
         int hookOf(int i, int j) {
             return rowLength(i) - j + columnLength(j) - i - 1;
-        }
-
-        /**
-         * The hook formula: the factorial of the number of cells, divided by all hooks. It is taken
-         * prime by prime, as the factorial is too great for a long while the answer is not.
-         */
-        long countFillings() {
-            int cells = cells();
-            long fillings = 1;
-            for (int prime : PRIMES) {
-                int power = -powerInHooks(prime);
-                for (int factor = 2; factor <= cells; factor++) {
-                    power += powerIn(factor, prime);
-                }
-                for (int k = 0; k < power; k++) {
-                    fillings *= prime;
-                }
-            }
-            return fillings;
-        }
-
-        private int powerInHooks(int prime) {
-            int power = 0;
-            for (int i = 0; i < SIDE; i++) {
-                for (int j = 0; j < SIDE; j++) {
-                    if (has(i, j)) {
-                        power += powerIn(hookOf(i, j), prime);
-                    }
-                }
-            }
-            return power;
-        }
-
-        private static int powerIn(int factor, int prime) {
-            int power = 0;
-            for (int divisor = prime; divisor > 1 && divisor <= factor; divisor *= prime) {
-                if (factor % divisor == 0) {
-                    power++;
-                }
-            }
-            return power;
         }
 
         // ---- slides
@@ -1141,6 +1081,60 @@ public final class SortedTables {
                 sum = sums[j];
                 end = placeOf(i, j);
             }
+        }
+    }
+
+    /**
+     * Counts by the hook formula: the factorial of the number of cells, divided by all hooks. It is
+     * taken prime by prime, as the factorial is too great for a long while the answer is not.
+     */
+    private static final class Fillings {
+        /** How often each factor stands above the fraction line, less how often below it. */
+        private final int[] times = new int[PLACES + 1];
+
+        long countFor(Table table) {
+            int cells = table.cells();
+            for (int factor = 0; factor <= PLACES; factor++) {
+                times[factor] = factor >= 1 && factor <= cells ? 1 : 0;
+            }
+            divideByHooks(table);
+            long count = 1;
+            for (int prime : PRIMES) {
+                int power = powerOf(prime);
+                for (int k = 0; k < power; k++) {
+                    count *= prime;
+                }
+            }
+            return count;
+        }
+
+        private void divideByHooks(Table table) {
+            for (int i = 0; i < SIDE; i++) {
+                for (int j = 0; j < SIDE; j++) {
+                    int hook = table.has(i, j) ? table.hookOf(i, j) : 0;
+                    if (hook >= 1 && hook <= PLACES) {
+                        times[hook]--;
+                    }
+                }
+            }
+        }
+
+        private int powerOf(int prime) {
+            int power = 0;
+            for (int factor = 1; factor <= PLACES; factor++) {
+                power += times[factor] * powerIn(factor, prime);
+            }
+            return power;
+        }
+
+        private static int powerIn(int factor, int prime) {
+            int power = 0;
+            for (int divisor = prime; divisor > 1 && divisor <= factor; divisor *= prime) {
+                if (factor % divisor == 0) {
+                    power++;
+                }
+            }
+            return power;
         }
     }
 

@@ -321,7 +321,6 @@ public final class ModelTests {
 
     // ---- error positions
 
-    /** The first place behind which no text of the tables can go on, found by trying. */
     private static void compareErrorPositions() {
         Random random = new Random(4);
         for (int k = 0; k < 3000; k++) {
