@@ -14,29 +14,20 @@ import java.util.regex.Matcher;
 import java.util.regex.Pattern;
 
 /** The public face is the document's and no more, and the source keeps to LANGUAGE.md's words. */
-public final class FaceTests {
+public final class FaceTests extends Checks {
     private static final Path SOURCE = Path.of("src/main/java/SortedTables.java");
     private static final Path DOCUMENT = Path.of("../shared/DOC.md");
     private static final String[] RULED_OUT = {"\\bimport\\b", "\\bpackage\\b", "\\bfinally\\b",
         "\\bcatch\\b", "\\bsynchronized\\b", "\\bassert\\b", "->", "::", "\\bprotected\\b",
         "\\bRandom\\b", "\\bThread\\b", "System\\.(?!arraycopy)", "Exact\\(", "\\bstatic \\{",
         "\\[\\]\\[\\]\\[\\]", "\\bvar\\b"};
-    private static int wrong = 0;
 
     public static void main(String[] args) throws IOException {
         compareFace();
         lookAtMembers();
         lookAtNames();
         lookAtSource();
-        System.out.println(wrong == 0 ? "the face is the document's" : wrong + " faults of the face");
-        if (wrong != 0) {
-            System.exit(1);
-        }
-    }
-
-    private static void fault(String text) {
-        wrong++;
-        System.out.println(text);
+        endWith("the face is the document's");
     }
 
     // ---- the face

@@ -6,73 +6,47 @@ import java.util.List;
 import java.util.Map;
 import java.util.Random;
 import java.util.TreeSet;
-import java.util.function.ToLongFunction;
 
 /** Runs of calls whose answers are compared with those of a plainer program. */
-public final class ModelTests {
-    private static final int RUNS = 400;
-    private static final int CALLS = 512;
-    private static int wrong = 0;
+public final class ModelTests extends Checks {
+    private static final int RUNS = 2500;
+    /** Of the 512, so many are needed to show two full tables, and to write a text of them. */
+    private static final int SHOW_CALLS = 84;
+    private static final int TEXT_CALLS = 157;
+    private static final int MOST_CALLS = 512 - SHOW_CALLS;
 
     public static void main(String[] args) {
-        for (int run = 0; run < RUNS && wrong < 20; run++) {
+        for (int run = 0; run < RUNS && faults() < 20; run++) {
             compare(new Random(run * 7919L + 1));
         }
         compareErrorPositions();
-        System.out.println(wrong == 0 ? "both programs agree" : wrong + " answers differ");
-        if (wrong != 0) {
-            System.exit(1);
-        }
+        endWith("both programs agree");
     }
 
     // ---- runs
 
+    /** The tables are shown at the end alone, as showing them takes calls as well. */
     private static void compare(Random random) {
         SortedTables x = new SortedTables();
+        Real real = new Real(x);
         Model model = new Model();
         StringBuilder told = new StringBuilder();
         int greed = random.nextInt(4);
-        for (int k = 0; k < CALLS; k++) {
-            if (random.nextInt(60) == 0) {
+        int calls = 1 + random.nextInt(MOST_CALLS);
+        for (int k = 0; k < calls; k++) {
+            if (random.nextInt(60) == 0 && k + TEXT_CALLS < calls) {
                 k += writeText(random, x, model, told);
             }
             Call call = nextCall(random, model, greed);
-            String want = answer(o -> call.on((Face) o), model);
-            String got = answer(o -> call.on(new Real((SortedTables) o)), x);
+            String want = answer(model, call::on);
+            String got = answer(real, call::on);
             told.append(call.name).append(" -> ").append(want).append('\n');
             if (!want.equals(got)) {
-                wrong++;
-                System.out.println(told + "but the class answered " + got);
-                return;
-            }
-            if (!model.show().equals(show(x))) {
-                wrong++;
-                System.out.println(told + "left " + show(x) + ", due is " + model.show());
+                fault(told + "but the class answered " + got);
                 return;
             }
         }
-    }
-
-    private static String answer(ToLongFunction<Object> call, Object on) {
-        try {
-            return Long.toString(call.applyAsLong(on));
-        } catch (RuntimeException e) {
-            return e.getClass().getName();
-        }
-    }
-
-    private static String show(SortedTables x) {
-        StringBuilder text = new StringBuilder("T");
-        for (int t = 0; t < 2; t++) {
-            for (int i = 0; i < 6 && x.size(t, i, false) > 0; i++) {
-                text.append(i == 0 ? "" : "/");
-                for (int j = 0; j < x.size(t, i, false); j++) {
-                    text.append(String.format("%02d", x.cell(t, i, j)));
-                }
-            }
-            text.append(t == 0 ? ";" : "");
-        }
-        return text.toString();
+        due(told + "after these the tables", show(x), model.show());
     }
 
     private static int writeText(Random random, SortedTables x, Model model, StringBuilder told) {
@@ -84,7 +58,7 @@ public final class ModelTests {
             model.append(c);
         }
         told.append("text ").append(text).append('\n');
-        return text.length();
+        return 1 + text.length();
     }
 
     private static String randomText(Random random) {
@@ -328,17 +302,11 @@ public final class ModelTests {
             if (random.nextInt(3) == 0) {
                 text = text.substring(0, random.nextInt(text.length() + 1));
             }
-            SortedTables x = new SortedTables();
             Model model = new Model();
             for (char c : text.toCharArray()) {
-                x.append(c);
                 model.append(c);
             }
-            if (x.errorPosition() != model.errorPosition()) {
-                wrong++;
-                System.out.println("errorPosition() of " + text + " answered " + x.errorPosition()
-                        + ", due is " + model.errorPosition());
-            }
+            dueError(text, model.errorPosition());
         }
     }
 
@@ -424,7 +392,6 @@ public final class ModelTests {
 
     /** Tables as lists of rows, and every question answered by listing all that there is. */
     private static final class Model implements Face {
-        private static final int NONE = -9;
         private static final Map<String, Long> KNOWN_FILLINGS = new HashMap<>();
         List<List<List<Integer>>> tables = List.of(new ArrayList<>(), new ArrayList<>());
         private final Deque<List<List<List<Integer>>>> past = new ArrayDeque<>();

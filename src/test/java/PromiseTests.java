@@ -1,15 +1,5 @@
-import java.util.function.Consumer;
-
 /** Each promise of the document: ordinary calls, the edges that it names, and wrong arguments. */
-public final class PromiseTests {
-    private static final int NONE = SortedTables.NONE;
-    /** Rows of 3, 2 and 1 cells: three corners and four gaps. */
-    private static final String STAIRS = "T010307/0205/09;0406/06";
-    private static final String FULL_TABLE =
-            "000000000001/000000000002/000000000003/000000000004/000000000005/010203040506";
-
-    private static int wrong = 0;
-
+public final class PromiseTests extends Checks {
     public static void main(String[] args) {
         newObject();
         appendCharacters();
@@ -49,90 +39,7 @@ public final class PromiseTests {
         simulateRounds();
         saveTables();
         restoreTables();
-        System.out.println(wrong == 0 ? "all promises hold" : wrong + " answers are not as due");
-        if (wrong != 0) {
-            System.exit(1);
-        }
-    }
-
-    // ---- helpers
-
-    private static void due(String call, long got, long want) {
-        if (got != want) {
-            wrong++;
-            System.out.println(call + " answered " + got + ", due is " + want);
-        }
-    }
-
-    private static void dueThrow(String call, Class<?> want, SortedTables x,
-            Consumer<SortedTables> run) {
-        Class<?> got = null;
-        String before = show(x);
-        try {
-            run.accept(x);
-        } catch (RuntimeException e) {
-            got = e.getClass();
-        }
-        if (got != want) {
-            wrong++;
-            System.out.println(call + " threw " + got + ", due is " + want);
-        }
-        if (!before.equals(show(x))) {
-            wrong++;
-            System.out.println(call + " threw and changed the tables");
-        }
-    }
-
-    private static void dueIndex(String call, SortedTables x, Consumer<SortedTables> run) {
-        dueThrow(call, IndexOutOfBoundsException.class, x, run);
-    }
-
-    private static void dueArgument(String call, SortedTables x, Consumer<SortedTables> run) {
-        dueThrow(call, IllegalArgumentException.class, x, run);
-    }
-
-    private static void dueState(String call, SortedTables x, Consumer<SortedTables> run) {
-        dueThrow(call, IllegalStateException.class, x, run);
-    }
-
-    private static void dueTables(String call, SortedTables x, String want) {
-        if (!show(x).equals(want)) {
-            wrong++;
-            System.out.println(call + " left " + show(x) + ", due is " + want);
-        }
-    }
-
-    private static String show(SortedTables x) {
-        return "T" + show(x, 0) + ";" + show(x, 1);
-    }
-
-    private static String show(SortedTables x, int t) {
-        StringBuilder text = new StringBuilder();
-        for (int i = 0; i < 6 && x.size(t, i, false) > 0; i++) {
-            text.append(i == 0 ? "" : "/");
-            for (int j = 0; j < x.size(t, i, false); j++) {
-                text.append(String.format("%02d", x.cell(t, i, j)));
-            }
-        }
-        return text.toString();
-    }
-
-    private static SortedTables write(String text) {
-        SortedTables x = new SortedTables();
-        for (char c : text.toCharArray()) {
-            x.append(c);
-        }
-        return x;
-    }
-
-    private static SortedTables loaded(String text) {
-        SortedTables x = write(text);
-        x.load();
-        return x;
-    }
-
-    private static void dueError(String text, int want) {
-        due("errorPosition() of " + text, write(text).errorPosition(), want);
+        endWith("all promises hold");
     }
 
     // ---- 1 to 5
@@ -237,9 +144,9 @@ public final class PromiseTests {
         dueError("T01/01/01/01/01/01/01;", 18);
         dueError("T;01/01/01/01/01/01", NONE);
         dueError("T;01/01/01/01/01/01/", 19);
-        dueError("T" + FULL_TABLE + ";" + FULL_TABLE, NONE);
-        dueError("T" + FULL_TABLE + ";" + FULL_TABLE + "/", 156);
-        dueError("T" + FULL_TABLE + ";" + FULL_TABLE + "0", 156);
+        dueError(FULL_PAIR, NONE);
+        dueError(FULL_PAIR + "/", 156);
+        dueError(FULL_PAIR + "0", 156);
         SortedTables x = write(STAIRS);
         x.errorPosition();
         dueTables("errorPosition()", x, "T;");
@@ -267,7 +174,7 @@ public final class PromiseTests {
         dueState("load() of half a number", write("T0"), SortedTables::load);
         dueState("load() of a wrong text", write("T01;02/"), SortedTables::load);
         due("load() of empty tables", write("T;").load(), 0);
-        due("load() of full tables", write("T" + FULL_TABLE + ";" + FULL_TABLE).load(), 72);
+        due("load() of full tables", write(FULL_PAIR).load(), 72);
     }
 
     // ---- 6 to 8
@@ -681,7 +588,7 @@ public final class PromiseTests {
         due("pairs(0) of 0", loaded("T00;00").pairs(0), 1);
         due("pairs(198) with an empty table", loaded("T00;").pairs(198), 0);
         due("pairs of full tables",
-                loaded("T" + FULL_TABLE + ";" + FULL_TABLE).pairs(198), 1296);
+                loaded(FULL_PAIR).pairs(198), 1296);
         dueArgument("pairs(-1)", x, o -> o.pairs(-1));
         dueArgument("pairs(199)", x, o -> o.pairs(199));
     }
@@ -882,29 +789,8 @@ public final class PromiseTests {
         dueArgument("runScript(3, MAX)", x, o -> o.runScript(3, Long.MAX_VALUE));
     }
 
-    /** Makes the rounds by the face's own actions and puts the tables back afterwards. */
-    private static int roundsByActions(SortedTables x, long seed, int m) {
-        x.save(1);
-        long number = seed;
-        for (int round = 0; round < m; round++) {
-            number = number * 6364136223846793005L + 1442695040888963407L;
-            int r = (int) (number >>> 33);
-            int t = r % 2;
-            int cells = x.about(t, 2);
-            if (r / 2 % 4 == 0 && cells > 0) {
-                int place = x.kth(t, r / 8 % cells, true);
-                x.remove(t, place / 10, place % 10);
-            } else if (x.about(t, 7) > 0) {
-                x.insert(t, r / 8 % 100);
-            }
-        }
-        int sum = x.about(0, 5) + x.about(1, 5);
-        x.restore(1);
-        return sum;
-    }
-
     private static void simulateRounds() {
-        String[] texts = {"T;", STAIRS, "T" + FULL_TABLE + ";" + FULL_TABLE};
+        String[] texts = {"T;", STAIRS, FULL_PAIR};
         long[] seeds = {0, 1, -1, 5, 77, Long.MIN_VALUE, Long.MAX_VALUE, 123456789012345L};
         for (String text : texts) {
             for (long seed : seeds) {
@@ -914,7 +800,7 @@ public final class PromiseTests {
                     dueTables("simulate", x, text);
                     dueState("undo() after simulate", x, SortedTables::undo);
                     due("simulate(" + seed + ", " + m + ") on " + text, sum,
-                            roundsByActions(x, seed, m));
+                            sumAfterRounds(x, seed, m));
                 }
             }
         }
