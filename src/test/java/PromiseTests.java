@@ -210,20 +210,16 @@ public final class PromiseTests extends Checks {
         due("cell(1, 0, 1)", x.cell(1, 0, 1), 6);
         dueIndex("cell(2, 0, 0)", x, o -> o.cell(2, 0, 0));
         dueIndex("cell(-1, 0, 0)", x, o -> o.cell(-1, 0, 0));
-        dueNoCells("cell", x, (o, i, j) -> o.cell(0, i, j));
+        dueNoCells("cell", (o, i, j) -> o.cell(0, i, j));
     }
 
-    private interface CellCall {
-        void call(SortedTables x, int i, int j);
-    }
-
-    /** For the table with the rows of 3, 2 and 1 cells. */
-    private static void dueNoCells(String name, SortedTables x, CellCall call) {
+    /** The call is for table 0 with the rows of 3, 2 and 1 cells. */
+    private static void dueNoCells(String name, OnPlace call) {
         int[][] places = {{0, 3}, {1, 2}, {2, 1}, {3, 0}, {0, -1}, {-1, 0}, {-1, 6}, {1, -1}, {0, 6},
-            {6, 0}, {0, 12}, {Integer.MAX_VALUE, 0}, {0, Integer.MAX_VALUE},
-            {Integer.MIN_VALUE, 0}, {0, Integer.MIN_VALUE}};
+            {6, 0}, {0, 12}, {MOST, 0}, {0, MOST}, {LEAST, 0}, {0, LEAST}};
         for (int[] p : places) {
-            dueIndex(name + " at " + p[0] + ", " + p[1], x, o -> call.call(o, p[0], p[1]));
+            dueIndex(name + " at " + p[0] + ", " + p[1], loaded(STAIRS),
+                    o -> call.on(o, p[0], p[1]));
         }
     }
 
@@ -295,7 +291,7 @@ public final class PromiseTests extends Checks {
                 "T000000000001/000000000002/000000000003/000000000004/000000000505/0102030406;");
         SortedTables y = loaded(STAIRS);
         dueIndex("remove(2, 0, 0)", y, o -> o.remove(2, 0, 0));
-        dueNoCells("remove", y, (o, i, j) -> o.remove(0, i, j));
+        dueNoCells("remove", (o, i, j) -> o.remove(0, i, j));
         dueState("undo() after a remove that threw", y, SortedTables::undo);
         dueIndex("remove of an empty table", new SortedTables(), o -> o.remove(0, 0, 0));
     }
@@ -316,7 +312,7 @@ public final class PromiseTests extends Checks {
         dueArgument("change(0, 0, 0, -1)", x, o -> o.change(0, 0, 0, -1));
         dueIndex("change(0, 5, 5, 100)", x, o -> o.change(0, 5, 5, 100));
         dueIndex("change(2, 0, 0, 100)", x, o -> o.change(2, 0, 0, 100));
-        dueNoCells("change", loaded(STAIRS), (o, i, j) -> o.change(0, i, j, 1));
+        dueNoCells("change", (o, i, j) -> o.change(0, i, j, 1));
     }
 
     private static void transferCells() {
@@ -334,7 +330,7 @@ public final class PromiseTests extends Checks {
                 "T" + FULL_TABLE.substring(0, FULL_TABLE.length() - 2) + ";0607");
         dueIndex("transfer(2, 0, 0)", x, o -> o.transfer(2, 0, 0));
         dueIndex("transfer(-1, 0, 0)", x, o -> o.transfer(-1, 0, 0));
-        dueNoCells("transfer", loaded(STAIRS), (o, i, j) -> o.transfer(0, i, j));
+        dueNoCells("transfer", (o, i, j) -> o.transfer(0, i, j));
     }
 
     private static void transposeTables() {
@@ -397,14 +393,14 @@ public final class PromiseTests extends Checks {
 
     private static void rememberFourteenStates() {
         SortedTables x = new SortedTables();
-        String[] states = new String[34];
-        for (int k = 0; k < 33; k++) {
+        String[] states = new String[16];
+        for (int k = 0; k < 16; k++) {
             states[k] = show(x);
             x.insert(0, 90 - k);
         }
         for (int k = 13; k >= 0; k--) {
-            due("undo() after 33 actions", x.undo(), k);
-            dueTables("undo() after 33 actions", x, states[19 + k]);
+            due("undo() after 16 actions", x.undo(), k);
+            dueTables("undo() after 16 actions", x, states[2 + k]);
         }
         dueState("undo() of a forgotten state", x, SortedTables::undo);
         for (int k = 0; k < 14; k++) {
@@ -505,7 +501,7 @@ public final class PromiseTests extends Checks {
         }
         dueIndex("rank(2, 0, 0)", x, o -> o.rank(2, 0, 0));
         dueIndex("rank(-1, 0, 0)", x, o -> o.rank(-1, 0, 0));
-        dueNoCells("rank", loaded(STAIRS), (o, i, j) -> o.rank(0, i, j));
+        dueNoCells("rank", (o, i, j) -> o.rank(0, i, j));
     }
 
     private static void countWindows() {
@@ -645,7 +641,7 @@ public final class PromiseTests extends Checks {
         }
         dueIndex("hook(2, 0, 0)", x, o -> o.hook(2, 0, 0));
         dueIndex("hook(-1, 0, 0)", x, o -> o.hook(-1, 0, 0));
-        dueNoCells("hook", loaded(STAIRS), (o, i, j) -> o.hook(0, i, j));
+        dueNoCells("hook", (o, i, j) -> o.hook(0, i, j));
     }
 
     private static void countFillings() {
@@ -723,7 +719,7 @@ public final class PromiseTests extends Checks {
         dueState("undo() after ifRemoved", x, SortedTables::undo);
         dueIndex("ifRemoved(2, 0, 0)", x, o -> o.ifRemoved(2, 0, 0));
         dueIndex("ifRemoved(-1, 0, 0)", x, o -> o.ifRemoved(-1, 0, 0));
-        dueNoCells("ifRemoved", x, (o, i, j) -> o.ifRemoved(0, i, j));
+        dueNoCells("ifRemoved", (o, i, j) -> o.ifRemoved(0, i, j));
     }
 
     // ---- 31 to 34
@@ -800,7 +796,7 @@ public final class PromiseTests extends Checks {
                     dueTables("simulate", x, text);
                     dueState("undo() after simulate", x, SortedTables::undo);
                     due("simulate(" + seed + ", " + m + ") on " + text, sum,
-                            sumAfterRounds(x, seed, m));
+                            sumAfterRounds(loaded(text), seed, m));
                 }
             }
         }
