@@ -79,7 +79,8 @@ final class ActionBoundaries extends Checks {
         s.holds("At most 14 states are remembered; when one more is remembered, the oldest one is "
                 + "forgotten.", () -> {
                     for (int actions : new int[] {1, 13, 14, 15, 16, 27, 28, 29, 42, 43}) {
-                        dueLastStates(actions);
+                        dueLastStates(0, actions);
+                        dueLastStates(1, actions);
                     }
                     for (int run = 0; run < 60; run++) {
                         dueLikeStack(new Random(run));
@@ -106,15 +107,17 @@ final class ActionBoundaries extends Checks {
         });
     }
 
-    private static void dueLastStates(int actions) {
-        SortedTables x = loaded("T00;");
+    /** Table t alone changes, so a state that has lost this table is noticed. */
+    private static void dueLastStates(int t, int actions) {
+        SortedTables x = loaded("T00;00");
         for (int v = 1; v <= actions; v++) {
-            x.change(0, 0, 0, v);
+            x.change(t, 0, 0, v);
         }
         int remembered = Math.min(14, actions);
         for (int k = 1; k <= remembered; k++) {
             due("undo() " + k + " after " + actions + " actions", x.undo(), remembered - k);
-            due("the number then", x.cell(0, 0, 0), actions - k);
+            due("the number then", x.cell(t, 0, 0), actions - k);
+            due("the number of the other table", x.cell(1 - t, 0, 0), 0);
         }
         dueState("undo() of a state that is forgotten", x, SortedTables::undo);
     }

@@ -114,10 +114,29 @@ final class CopyBoundaries extends Checks {
             String rows = "0".repeat(12) + "/" + "0".repeat(12) + "/" + "0".repeat(12);
             dueScript("T" + rows + ";" + rows, 1, 80324, NONE);
             dueScript("T" + rows + ";" + rows, 1, 80323, 0);
+            dueMostPairs();
             // 1296 pairs are more than three digits can tell.
             dueScript(FULL_PAIR, 1, 80296, 0);
             dueScript(FULL_PAIR, 1, 80999, 0);
         });
+    }
+
+    /** Each of 27 zeros makes 36 pairs up to 99, and each 99 makes one with each 0 of table 1. */
+    private static void dueMostPairs() {
+        String zeros = "0".repeat(12);
+        String ones = "/" + "01".repeat(6);
+        String first = "T" + (zeros + "/").repeat(4) + "000000999999/";
+        String pairs999 = first + "99".repeat(6) + ";000000010101" + ones.repeat(5);
+        dueScript(pairs999, 1, 80999, NONE);
+        dueScript(pairs999, 1, 80998, 0);
+        dueScript(pairs999, 1, 80000, 0);
+        String pairs1000 = first + "99;" + zeros + "/000101010101" + ones.repeat(4);
+        due("pairs(99) of " + pairs1000, loaded(pairs1000).pairs(99), 1000);
+        for (int xyz : new int[] {0, 1, 100, 999}) {
+            dueScript(pairs1000, 1, 80000 + xyz, 0);
+        }
+        // Without a 99 of table 0 the pairs can be told again.
+        dueScript(pairs1000, 2, 2050080993L, NONE);
     }
 
     private static void failures(Sentences s) {

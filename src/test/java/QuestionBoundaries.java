@@ -110,8 +110,11 @@ final class QuestionBoundaries extends Checks {
             for (int[] lengths : Shapes.all()) {
                 dueSoMany(lengths);
             }
-            due("kth of the number 0", loaded("T00;").kth(0, 0, false), 0);
-            due("kth of the number 99", loaded("T99;").kth(0, 0, false), 99);
+            for (int v = 0; v < 100; v++) {
+                SortedTables x = loaded("T" + twoDigits(v) + ";");
+                due("kth of the number " + v, x.kth(0, 0, false), v);
+                due("no second number than " + v, x.kth(0, 1, false), NONE);
+            }
         });
         s.holds("Throws `IndexOutOfBoundsException` if there is no such table", () -> {
             dueNoTable("kth number", (x, t) -> x.kth(t, 0, false));
@@ -189,6 +192,12 @@ final class QuestionBoundaries extends Checks {
                     dueOrderOfBoth("T0007/05;0005/05", new int[][] {{0, 0}, {0, 1}, {5, 0}, {5, 1},
                         {5, 1}, {7, 0}});
                     dueOrderOfBoth("T99;0099", new int[][] {{0, 1}, {99, 0}, {99, 1}});
+                    dueOrderOfBoth("T06;0506", new int[][] {{5, 1}, {6, 0}, {6, 1}});
+                    dueOrderOfBoth("T0506;06", new int[][] {{5, 0}, {6, 0}, {6, 1}});
+                    for (int v = 0; v < 100; v++) {
+                        String number = twoDigits(v);
+                        dueOrderOfBoth("T" + number + ";" + number, new int[][] {{v, 0}, {v, 1}});
+                    }
                 });
         s.holds("NONE if there are not so many cells.", () -> {
             dueOrderOfBoth("T;", new int[0][]);
@@ -254,6 +263,10 @@ final class QuestionBoundaries extends Checks {
             }
             due("kthSum(0) of zeros", loaded("T00;00").kthSum(0), 0);
             due("kthSum(0) of 99s", loaded("T99;99").kthSum(0), 198);
+            for (int sum = 0; sum <= 198; sum++) {
+                String text = "T" + twoDigits(sum / 2) + ";" + twoDigits(sum - sum / 2);
+                due("kthSum(0) of " + text, loaded(text).kthSum(0), sum);
+            }
         });
         s.holds("NONE if there are not so many pairs.", () -> {
             SortedTables x = loaded("T0001/50;004999");

@@ -173,6 +173,12 @@ final class ShapeBoundaries extends Checks {
                     duePath("000000/0000/99", 99, 20);
                 });
         s.holds("the greatest one has the greatest sum of the numbers of its cells", () -> {
+            // A greater path that was asked for before is of no account.
+            SortedTables x = loaded("T" + Shapes.text(SQUARE, 99) + ";0001/02");
+            due("path(0, 0) of a full table", x.path(0, 0), 1089);
+            due("path(1, 0) after it", x.path(1, 0), 2);
+            due("path(1, 1) after it", x.path(1, 1), 10);
+            due("path(0, 1) of the full table", x.path(0, 1), 55);
             duePath("0090/0191/02", 181, 11);
             duePath("000102/909192/93", 273, 12);
             duePath("010101/0101/02", 4, 20);
