@@ -35,7 +35,7 @@ public final class SortedTables {
     private final Pair trial = new Pair();
     private final Past past = new Past();
     private final Text text = new Text();
-    private final Reader reader = new Reader(text, trial);
+    private final Reader reader = new Reader();
     private final Slot slot0 = new Slot();
     private final Slot slot1 = new Slot();
     private final GreatestPath greatestPath = new GreatestPath();
@@ -62,14 +62,14 @@ public final class SortedTables {
     }
 
     public int errorPosition() {
-        return reader.read();
+        return reader.read(text);
     }
 
     public int load() throws IllegalStateException {
-        if (reader.read() != NONE) {
+        if (reader.read(text) != NONE) {
             throw new IllegalStateException("the text is not a text of the tables");
         }
-        now.copyFrom(trial);
+        now.copyFrom(reader.tables());
         past.forgetAll();
         slot0.empty();
         slot1.empty();
@@ -361,7 +361,9 @@ public final class SortedTables {
     }
 
     private static void requireNotNegative(int k) throws IllegalArgumentException {
-        requireRange(k, 0, Integer.MAX_VALUE);
+        if (k < 0) {
+            throw new IllegalArgumentException("an argument is negative");
+        }
     }
 
     private static void requireWindow(int i, int j, int h, int w) throws IllegalArgumentException {
@@ -936,10 +938,9 @@ public final class SortedTables {
         }
     }
 
-    /** Reads the text from left to right, and puts the cells into a pair of tables. */
+    /** Reads a text from left to right, and puts the cells into a pair of tables of its own. */
     private static final class Reader {
-        private final Text text;
-        private final Pair tables;
+        private final Pair tables = new Pair();
         private boolean begun = false;
         private int table = 0;
         private int row = 0;
@@ -948,13 +949,13 @@ public final class SortedTables {
         /** The first digit of a number whose second digit is due; ABSENT between numbers. */
         private int tens = ABSENT;
 
-        Reader(Text text, Pair tables) {
-            this.text = text;
-            this.tables = tables;
+        /** What was read last; they are whole only if it was a text of the tables. */
+        Pair tables() {
+            return tables;
         }
 
         /** Answers the error position. */
-        int read() {
+        int read(Text text) {
             tables.wipe();
             begun = false;
             begin(0);
@@ -1129,7 +1130,7 @@ public final class SortedTables {
 
         private static int powerIn(int factor, int prime) {
             int power = 0;
-            for (int divisor = prime; divisor > 1 && divisor <= factor; divisor *= prime) {
+            for (int divisor = prime; divisor > 1 && divisor <= PLACES; divisor *= prime) {
                 if (factor % divisor == 0) {
                     power++;
                 }

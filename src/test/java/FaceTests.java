@@ -20,7 +20,11 @@ public final class FaceTests extends Checks {
     private static final String[] RULED_OUT = {"\\bimport\\b", "\\bpackage\\b", "\\bfinally\\b",
         "\\bcatch\\b", "\\bsynchronized\\b", "\\bassert\\b", "->", "::", "\\bprotected\\b",
         "\\bRandom\\b", "\\bThread\\b", "System\\.(?!arraycopy)", "Exact\\(", "\\bstatic \\{",
-        "\\[\\]\\[\\]\\[\\]", "\\bvar\\b"};
+        "\\[\\]\\[\\]\\[\\]", "\\bvar\\b", "\\b(Integer|Long|Math)\\.[A-Z]",
+        "\\bthis\\s*[,)]"};
+    /** A field's first value that is made out of other fields would hand these out. */
+    private static final Pattern HANDED_OUT =
+            Pattern.compile("private final \\w+ \\w+ = new \\w+\\([^)]");
 
     public static void main(String[] args) throws IOException {
         compareFace();
@@ -151,7 +155,7 @@ public final class FaceTests extends Checks {
         }
     }
 
-    // ---- rules 2, 4, 5, 6
+    // ---- rules 2, 4, 5, 6 and 12
 
     private static void lookAtSource() throws IOException {
         String source = Files.readString(SOURCE);
@@ -160,6 +164,9 @@ public final class FaceTests extends Checks {
             if (Pattern.compile(word).matcher(code).find()) {
                 fault("the source has " + word);
             }
+        }
+        if (HANDED_OUT.matcher(code).find()) {
+            fault("a constructor hands out what the object is made of");
         }
         if (!source.chars().allMatch(c -> c < 128)) {
             fault("the source has a sign beyond 127");
